@@ -34,11 +34,11 @@ public final class GridPrices {
     private static final int DEMAND_CHANGE = 3;
     private static final int OUTAGE_CHANGE = 4;
 
-    private final Reader reader = new Reader();
+    private final Reader reader;
+    private final Problem problem;
     /** The factors of the whole grid, and of the grid without the line of the outage. */
     private final Factors factors = new Factors();
     private final Factors factorsAfter = new Factors();
-    private final Problem problem = new Problem(factors, factorsAfter);
     private final ArrayList<Change> changes = new ArrayList<>();
     /** What is known of each interval; null where nothing is known since the latest change. */
     private final Dispatch[] dispatches = new Dispatch[MAX_INTERVALS];
@@ -49,6 +49,8 @@ public final class GridPrices {
         grid.nodes = 2;
         grid.intervals = 1;
         grid.addLine(0, 1, 1, 1);
+        reader = new Reader(grid);
+        problem = new Problem(grid, factors, factorsAfter);
         computeFactors();
     }
 
@@ -719,7 +721,7 @@ public final class GridPrices {
         /** The quotient of two numbers; 0 if the denominator is 0, which no caller passes. */
         static Fraction of(long numerator, long denominator) {
             if (denominator == 0) {
-                return whole(0);
+                return new Fraction(0, 1);
             }
             long shared = commonDivisor(numerator, denominator);
             long signed = denominator < 0 ? -shared : shared;
@@ -964,7 +966,8 @@ public final class GridPrices {
         /** The row that is being written: a number, then one for the output of each generator. */
         private final long[] terms = new long[MAX_GENERATORS + 1];
 
-        Problem(Factors factors, Factors factorsAfter) {
+        Problem(Grid grid, Factors factors, Factors factorsAfter) {
+            this.grid = grid;
             this.factors = factors;
             this.factorsAfter = factorsAfter;
         }
@@ -1002,13 +1005,14 @@ public final class GridPrices {
         }
 
         Fraction costFound() {
-            return program.answer(0);
+            return Fraction.of(program.table[0][0], program.divisor);
         }
 
         Fraction[] outputsFound() {
             Fraction[] outputs = new Fraction[MAX_GENERATORS];
             for (int generator = 0; generator < MAX_GENERATORS; generator++) {
-                outputs[generator] = program.answer(generator + 1);
+                long scaled = generator < grid.generators ? program.table[generator + 1][0] : 0;
+                outputs[generator] = Fraction.of(scaled, program.divisor);
             }
             return outputs;
         }
@@ -1075,11 +1079,12 @@ public final class GridPrices {
         private static final int MAX_ROWS = 2 + 2 * MAX_GENERATORS + 4 * MAX_LINES;
         private static final int MAX_STEPS = 1000000;
 
+        /** The first column, over the divisor, tells the cost and then each output. */
+        final long[][] table = new long[WIDTH][WIDTH];
+        long divisor;
         private int variables;
         private int rows;
-        private long divisor;
         private final long[][] row = new long[MAX_ROWS][WIDTH];
-        private final long[][] table = new long[WIDTH][WIDTH];
         /** The row that is to be made free, over the free variables. */
         private final long[] entering = new long[WIDTH];
 
@@ -1087,9 +1092,9 @@ public final class GridPrices {
             variables = size;
             rows = 0;
             divisor = 1;
-            for (int line = 0; line <= size; line++) {
+            for (int place = 0; place <= size; place++) {
                 for (int column = 0; column <= size; column++) {
-                    table[line][column] = line == column && line > 0 ? 1 : 0;
+                    table[place][column] = place == column && place > 0 ? 1 : 0;
                 }
             }
             for (int column = 1; column <= size; column++) {
@@ -1121,11 +1126,6 @@ public final class GridPrices {
                 exchange(leaving);
             }
             return false;
-        }
-
-        /** The cost (0) or an output (from 1 on); 0 for an output that is not in the program. */
-        Fraction answer(int index) {
-            return index <= variables ? Fraction.of(table[index][0], divisor) : Fraction.whole(0);
         }
 
         /** A row that is negative while all free variables are 0. */
@@ -1163,9 +1163,9 @@ public final class GridPrices {
         }
 
         private boolean isCheaper(int column, int other) {
-            for (int line = 0; line <= variables; line++) {
-                long left = table[line][column] * entering[other];
-                long right = table[line][other] * entering[column];
+            for (int place = 0; place <= variables; place++) {
+                long left = table[place][column] * entering[other];
+                long right = table[place][other] * entering[column];
                 if (left != right) {
                     return left < right;
                 }
@@ -1178,12 +1178,12 @@ public final class GridPrices {
             if (divisor == 0) {
                 return;
             }
-            for (int line = 0; line <= variables; line++) {
-                long share = table[line][leaving];
+            for (int place = 0; place <= variables; place++) {
+                long share = table[place][leaving];
                 for (int column = 0; column <= variables; column++) {
                     if (column != leaving) {
-                        long whole = table[line][column] * pivot - share * entering[column];
-                        table[line][column] = whole / divisor;
+                        long product = table[place][column] * pivot - share * entering[column];
+                        table[place][column] = product / divisor;
                     }
                 }
             }
@@ -1205,6 +1205,7 @@ public final class GridPrices {
         int errorPosition = NONE;
         private final byte[] text = new byte[MAX_TEXT];
         private final Factors factors = new Factors();
+        /** The grid that is being read, or was read last. */
         private Grid grid;
         private int end;
         private int kind;
@@ -1212,6 +1213,10 @@ public final class GridPrices {
         private int start;
         private int stop;
         private int previousStart;
+
+        Reader(Grid grid) {
+            this.grid = grid;
+        }
 
         void addBytes(int bytes) {
             for (int shift = 24; shift >= 0; shift -= 8) {
