@@ -595,7 +595,10 @@ public final class GridPrices {
         return bits;
     }
 
-    /** The bits of a float from 0 to below 2^100, found by exact scaling with powers of two. */
+    /**
+     * The bits of a float from 0 to below 2, found by exact doubling. No load is greater: a flow is at
+     * most its limit.
+     */
     private static int bitsOf(float value) {
         if (!(value > 0)) {
             return 0;
@@ -605,10 +608,6 @@ public final class GridPrices {
         for (int step = 0; step < 126 && rest < 1; step++) {
             rest *= 2;
             exponent--;
-        }
-        for (int step = 0; step < 126 && rest >= 2; step++) {
-            rest /= 2;
-            exponent++;
         }
         return (exponent << 23) + (int) ((rest - 1) * 8388608f);
     }

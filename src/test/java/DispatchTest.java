@@ -14,6 +14,7 @@ public final class DispatchTest {
         outputs();
         ties();
         fractions();
+        greatestGrid();
         flows();
         flowsAfter();
         bindings();
@@ -112,6 +113,22 @@ public final class DispatchTest {
         due("congestionCost", prices.congestionCost(0, 0), prices.congestionCost(0, 1), 27, 2);
         due("flow", prices.flow(0, 1, 0), prices.flow(0, 1, 1), 5, 2);
         due("flow", prices.flow(0, 2, 0), prices.flow(0, 2, 1), -7, 2);
+    }
+
+    /** With five generators, six lines and an outage even the last line's limit after it is kept. */
+    private static void greatestGrid() {
+        for (String last : new String[] {"0 1", "1 0"}) {
+            GridPrices prices = Check.loaded("nodes 2 intervals 1;" + "line 0 1 10 emergency 400;".repeat(5)
+                    + "line " + last + " 10;generator 0 1 200;generator 1 9 5;generator 1 8 5;generator 1 7 5;"
+                    + "generator 1 6 5;demand 0 1 60;outage 0;");
+            output(prices, 0, 50, 1);
+            output(prices, 1, 0, 1);
+            output(prices, 2, 0, 1);
+            output(prices, 3, 5, 1);
+            output(prices, 4, 5, 1);
+            Check.due("binding after", prices.binding(0, true), 32);
+            Check.due("leastCost", prices.leastCost(0, 0), 115);
+        }
     }
 
     private static void flows() {

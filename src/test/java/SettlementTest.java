@@ -98,6 +98,11 @@ public final class SettlementTest {
         due("paid 1", part -> prices.paid(0, 1, part), 4200, 1);
         due("paid 2", part -> prices.paid(0, 2, part), -1000, 1);
         due("paid 3", part -> prices.paid(0, 3, part), 0, 1);
+        GridPrices ones = Check.loaded("nodes 2 intervals 1;line 0 1 5;generator 0 1 99;generator 1 2 99;"
+                + "demand 0 1 10;" + "right 0 0 1 1;".repeat(3) + "right 1 0 1 1;".repeat(3));
+        due("target 0", part -> ones.target(0, 0, part), 1, 1);
+        due("fundingRatio", part -> ones.fundingRatio(0, part), 5, 6);
+        due("paid 1", part -> ones.paid(0, 1, part), 5, 2);
         GridPrices both = Check.loaded(TRIANGLE + "right 3 0 2 99;right 3 1 0 50;right 3 0 2 100;");
         due("fundingRatio", part -> both.fundingRatio(0, part), 175, 199);
         due("paid 3", part -> both.paid(0, 3, part), 6000, 1);

@@ -83,7 +83,24 @@ public final class TextTest {
         Check.due("rights replaced", prices.count(4), 0);
         Check.due("limit replaced", prices.line(0, 2), 5);
         Check.due("demand replaced", prices.demand(0, 1), 0);
-        prices.truncate(0);
+        answersFollow();
+    }
+
+    /** Nothing that was found before a load is answered after it. */
+    private static void answersFollow() {
+        String grid = "nodes 3 intervals 2;line 0 1 10;line 1 2 20;line 0 2 30;";
+        GridPrices prices = Check.loaded(grid + "generator 0 5 50;demand 1 2 6;outage 1;");
+        Check.due("cost", prices.leastCost(1, 0), 30);
+        Check.due("price", prices.price(1, 2, 0), 5);
+        Check.put(prices, "nodes 3 intervals 2;line 0 1 10;line 1 2 20;generator 0 7 50;demand 1 2 4;");
+        Check.due("load", prices.load(), 2);
+        Check.due("cost", prices.leastCost(1, 0), 28);
+        Check.due("price", prices.price(1, 2, 0), 7);
+        Check.due("factor", prices.factor(0, 2, 0), -1);
+        Check.dueState("no outage", () -> prices.outageFactor(0, 2, 0));
+        Check.put(prices, "nodes 5");
+        Check.dueArgument("load", prices::load);
+        Check.due("cost stays", prices.leastCost(1, 0), 28);
     }
 
     private static void failing() {
@@ -141,6 +158,10 @@ public final class TextTest {
         bad(1, "  \n ");
         bad(1, "^node 3 intervals 2;");
         bad(1, "^nodess 3 intervals 2;");
+        bad(1, "^modes 3 intervals 2;");
+        bad(1, "^noden 3 intervals 2;");
+        bad(1, "^a 3");
+        bad(1, "^z 3");
         bad(1, "nodes");
         bad(1, "nodes ^; intervals 2;");
         bad(2, "nodes ^1 intervals 2;");
