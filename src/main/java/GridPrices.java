@@ -419,7 +419,7 @@ public final class GridPrices {
                 debt = target.numerator < 0 ? debt.plus(target) : debt;
             }
         }
-        return credit.times(ratio).plus(debt).part(part);
+        return credit.timesPlus(ratio, debt).part(part);
     }
 
     // ---- what would be
@@ -769,6 +769,39 @@ public final class GridPrices {
 
         Fraction times(long factor) {
             return times(whole(factor));
+        }
+
+        /**
+         * This fraction times a ratio plus a summand, right wherever both parts of the answer are longs.
+         * The product alone may be far longer, so it is never made: what can be cancelled is found from
+         * rests, and the parts are made after cancelling. The products of rests are longs if the denominators
+         * of this fraction and of the summand have a common multiple below 2^31. Those of sums of targets
+         * do: in no grid is the common denominator of all prices beyond 2^29.
+         */
+        Fraction timesPlus(Fraction ratio, Fraction summand) {
+            long shared = commonDivisor(denominator, summand.denominator);
+            long bottom = denominator / shared * summand.denominator;
+            long left = numerator * (summand.denominator / shared);
+            long right = summand.numerator * (denominator / shared);
+            long cancelled = commonDivisor(left, ratio.denominator);
+            long mine = left / cancelled;
+            long scale = ratio.denominator / cancelled;
+            // The answer is (mine * ratio.numerator + right * scale) / (bottom * scale). What is above shares
+            // nothing with scale, because neither mine nor the ratio's numerator does.
+            long rests = rest(mine, ratio.numerator, bottom) + rest(right, scale, bottom);
+            long divisor = commonDivisor(rests, bottom);
+            long carried = (rest(mine, ratio.numerator, divisor) + rest(right, scale, divisor)) / divisor;
+            long top = quotient(mine, ratio.numerator, divisor) + quotient(right, scale, divisor) + carried;
+            return new Fraction(top, bottom / divisor * scale);
+        }
+
+        /** With the rest below, a product is quotient * divisor + rest, even where it is no long. */
+        private static long quotient(long first, long second, long divisor) {
+            return divisor == 0 ? 0 : first / divisor * second + first % divisor * (second / divisor);
+        }
+
+        private static long rest(long first, long second, long divisor) {
+            return divisor == 0 ? 0 : (first % divisor) * (second % divisor);
         }
 
         Fraction over(Fraction other) {

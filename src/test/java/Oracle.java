@@ -29,6 +29,41 @@ final class Oracle {
         return copy;
     }
 
+    /** The grid as a text to load. */
+    String text() {
+        StringBuilder text = new StringBuilder();
+        text.append("nodes ").append(nodes).append(" intervals ").append(intervals).append(";\n");
+        for (int[] line : lines) {
+            text.append("line ").append(line[0]).append(' ').append(line[1]).append(' ').append(line[2]);
+            text.append(line[3] == line[2] ? "" : "emergency" + line[3]).append(";");
+        }
+        for (int[] generator : generators) {
+            text.append("generator").append(numbers(generator));
+        }
+        for (int interval = 0; interval < intervals; interval++) {
+            for (int node = 0; node < nodes; node++) {
+                if (demands[interval][node] > 0) {
+                    text.append("demand").append(numbers(interval, node, demands[interval][node]));
+                }
+            }
+        }
+        for (int[] right : rights) {
+            text.append("right").append(numbers(right));
+        }
+        if (outage >= 0) {
+            text.append("outage").append(numbers(outage));
+        }
+        return text.toString();
+    }
+
+    private static String numbers(int... numbers) {
+        StringBuilder text = new StringBuilder();
+        for (int number : numbers) {
+            text.append(text.length() == 0 ? "" : " ").append(number);
+        }
+        return text.append(";").toString();
+    }
+
     boolean isConnectedWithout(int without) {
         boolean[] reached = new boolean[nodes];
         reached[0] = true;

@@ -82,41 +82,7 @@ public final class OracleTest {
         if (random.nextInt(3) > 0 && oracle.isConnectedWithout(outage)) {
             oracle.outage = outage;
         }
-        return textOf();
-    }
-
-    private String textOf() {
-        StringBuilder text = new StringBuilder();
-        text.append("nodes ").append(oracle.nodes).append(" intervals ").append(oracle.intervals).append(";\n");
-        for (int[] line : oracle.lines) {
-            text.append("line ").append(line[0]).append(' ').append(line[1]).append(' ').append(line[2]);
-            text.append(line[3] == line[2] ? "" : "emergency" + line[3]).append(";");
-        }
-        for (int[] generator : oracle.generators) {
-            text.append("generator").append(numbers(generator));
-        }
-        for (int interval = 0; interval < oracle.intervals; interval++) {
-            for (int node = 0; node < oracle.nodes; node++) {
-                if (oracle.demands[interval][node] > 0) {
-                    text.append("demand").append(numbers(interval, node, oracle.demands[interval][node]));
-                }
-            }
-        }
-        for (int[] right : oracle.rights) {
-            text.append("right").append(numbers(right));
-        }
-        if (oracle.outage >= 0) {
-            text.append("outage").append(numbers(oracle.outage));
-        }
-        return text.toString();
-    }
-
-    private static String numbers(int... numbers) {
-        StringBuilder text = new StringBuilder();
-        for (int number : numbers) {
-            text.append(text.length() == 0 ? "" : " ").append(number);
-        }
-        return text.append(";").toString();
+        return oracle.text();
     }
 
     // ---- changes

@@ -16,6 +16,7 @@ public final class SettlementTest {
         rightsFit();
         targets();
         underfunded();
+        longFractions();
         funded();
         fundBelowZero();
         missing();
@@ -106,6 +107,33 @@ public final class SettlementTest {
         GridPrices both = Check.loaded(TRIANGLE + "right 3 0 2 99;right 3 1 0 50;right 3 0 2 100;");
         due("fundingRatio", part -> both.fundingRatio(0, part), 175, 199);
         due("paid 3", part -> both.paid(0, 3, part), 6000, 1);
+    }
+
+    /** What is paid fits longs here, while target * funding ratio does not. */
+    private static void longFractions() {
+        GridPrices one = Check.loaded("nodes 4 intervals 1;line 1 2 200;line 3 1 36;line 2 3 99;line 0 2 44;"
+                + "line 3 2 200;line 1 0 21 emergency 62;generator 0 70 104;generator 1 49 8;generator 2 6 103;"
+                + "generator 1 0 87;generator 3 8 94;demand 0 0 168;demand 0 1 122;demand 0 2 54;right 0 3 1 83;"
+                + "right 0 1 3 8;right 0 2 0 20;right 2 3 1 44;outage 2;");
+        due("price 0", part -> one.price(0, 0, part), 21632, 275);
+        due("price 1", part -> one.price(0, 1, part), 29899, 675);
+        due("price 2", part -> one.price(0, 2, part), 8478, 475);
+        due("price 3", part -> one.price(0, 3, part), 8, 1);
+        due("surplus", part -> one.surplus(0, part), 18928585507L, 3526875);
+        due("target 2", part -> one.target(0, 2, part), 254200, 209);
+        due("fundingRatio", part -> one.fundingRatio(0, part), 19952643707L, 20546548925L);
+        due("paid 0", part -> one.paid(0, 0, part), 3687165760020624257L, 966201463198125L);
+        due("paid 1", part -> one.paid(0, 1, part), 0, 1);
+        GridPrices two = Check.loaded("nodes 4 intervals 1;line 1 0 25 emergency 174;line 2 3 200;line 1 3 99;"
+                + "line 2 3 200;line 1 2 49;line 0 3 18;generator 2 0 179;generator 1 6 29;generator 3 50 3;"
+                + "generator 0 91 3;demand 0 0 45;demand 0 1 30;demand 0 3 72;right 0 3 1 7;right 3 2 0 33;"
+                + "right 3 0 1 6;right 3 3 0 71;outage 1;");
+        due("paid 3", part -> two.paid(0, 3, part), 1534213507619934369L, 187996748989700L);
+        GridPrices three = Check.loaded("nodes 4 intervals 1;line 2 0 200;line 0 2 35 emergency 121;line 2 1 26;"
+                + "line 3 0 24;line 1 3 200;line 2 3 200;generator 3 95 8;generator 1 1 151;generator 2 40 172;"
+                + "generator 0 9 4;demand 0 0 67;demand 0 1 61;demand 0 2 90;demand 0 3 109;right 1 0 3 98;"
+                + "right 1 1 3 85;right 0 0 2 63;right 0 3 1 84;right 1 3 2 5;outage 5;");
+        due("paid 1", part -> three.paid(0, 1, part), 5291922771322915282L, 401670091517695L);
     }
 
     private static void funded() {
