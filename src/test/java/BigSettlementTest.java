@@ -90,7 +90,8 @@ public final class BigSettlementTest {
                     grid.nodes = numbers[0];
                     grid.intervals = numbers[2];
                 }
-                case "line" -> grid.lines.add(new int[] {numbers[0], numbers[1], numbers[2], numbers[numbers.length - 1]});
+                case "line" -> grid.lines.add(
+                        new int[] {numbers[0], numbers[1], numbers[2], numbers[numbers.length - 1]});
                 case "generator" -> grid.generators.add(numbers);
                 case "demand" -> grid.demands[numbers[0]][numbers[1]] = numbers[2];
                 case "right" -> grid.rights.add(numbers);

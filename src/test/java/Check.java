@@ -8,6 +8,11 @@ final class Check {
         Object run();
     }
 
+    /** A call that answers a part of a fraction. */
+    interface Part {
+        long of(int part);
+    }
+
     private static int wrong = 0;
     private static int made = 0;
 
@@ -39,6 +44,12 @@ final class Check {
         }
     }
 
+    /** A fraction is told by its numerator (part 0) and its denominator (part 1). */
+    static void dueFraction(String call, Part got, long top, long bottom) {
+        due(call + " part 0", got.of(0), top);
+        due(call + " part 1", got.of(1), bottom);
+    }
+
     /** Expects exactly the named exception, thrown by a statement and not by the machine. */
     static void dueThrow(String call, Class<?> want, Call run) {
         made++;
@@ -52,6 +63,16 @@ final class Check {
             got = "throws " + thrown;
         }
         tell(call + " answered " + got + ", due is " + want.getSimpleName());
+    }
+
+    /** Expects an answer, whichever. */
+    static void dueAnswer(String call, Call run) {
+        made++;
+        try {
+            run.run();
+        } catch (RuntimeException thrown) {
+            tell(call + " throws " + thrown);
+        }
     }
 
     static void dueIndex(String call, Call run) {

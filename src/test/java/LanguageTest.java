@@ -12,8 +12,8 @@ public final class LanguageTest {
 
     private static final Path SOURCE = Path.of("src/main/java/GridPrices.java");
     private static final List<String> FORBIDDEN = List.of("->", "::", "Exact", "finally", "synchronized", "assert",
-            "instanceof", "catch", "try", "@", "Float.", "Double.", "System.", "Object", "package ", "static {", "yield",
-            "hashCode", "toString", "NaN", "native", "volatile", "transient", "Thread", "Random", "protected ");
+            "instanceof", "catch", "try", "@", "Float.", "Double.", "System.", "Object", "package ", "static {",
+            "yield", "hashCode", "toString", "NaN", "native", "volatile", "transient", "Thread", "Random", "protected ");
 
     private LanguageTest() {
     }
