@@ -84,11 +84,15 @@ public final class BufferBoundaryTest {
     /** Promise 2: "IllegalStateException if the length would exceed 700", and then nothing has changed. */
     private static void beyondFull() {
         String filled = " ".repeat(700 - GRID.length()) + GRID;
-        GridPrices prices = new GridPrices();
+        GridPrices prices = Check.loaded(OTHER);
+        prices.setDemand(0, 0, 8);
         Check.put(prices, filled);
         for (int more = 0; more < 3; more++) {
             Check.dueState("one call beyond a full buffer", () -> prices.append(-1, -1, -1, -1, -1));
         }
+        Check.due("no error is told", prices.errorCode(), 0);
+        Check.due("the change can be undone", prices.undo(), 0);
+        Check.due("the grid is as it was", prices.count(2), 3);
         Check.due("the text is as it was", prices.load(), 1);
         Check.due("the text is as it was", prices.line(0, 2), 5);
         Check.due("there is room again", blanks(prices), 20);
